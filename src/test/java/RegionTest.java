@@ -79,6 +79,8 @@ public final class RegionTest {
         pairDue(Regionry.IN, "204 1 708", "8", "1 204 708");
         pairDue(Regionry.IN, "204 8", "", "");
         pairDue(Regionry.OUT, "204 8", "", "8 204");
+        pairDue(Regionry.IN, "1 708", "", "");
+        pairDue(Regionry.OUT, "1 708", "", "1 708");
     }
 
     private static void orderedPairs() {
@@ -112,6 +114,8 @@ public final class RegionTest {
         regionsDue(x, x.pair(Regionry.SPAN, zero, one), "span of 0 to 1", "103 305");
         regionsDue(x, x.pair(Regionry.SPAN, one, zero), "span of 1 to 0", "204");
         regionsDue(x, x.pair(Regionry.SPAN, zero, zero), "span of 0 to 0", "2 104");
+        x = Sight.text("0000000000000000000000" + "01");
+        regionsDue(x, x.pair(Regionry.SPAN, x.letter(0), x.letter(1)), "span to the last place", "2224");
     }
 
     private static void nearDue(int gap, String ones, String others, String due) {
@@ -159,7 +163,13 @@ public final class RegionTest {
         onlyDue("2 1", "1", "2");
         onlyDue("3 104 205", "3 104 205", "3 104 205");
         onlyDue("304", "304", "304");
+        onlyDue("1", "1", "1");
+        onlyDue("1 102 708", "1 102 708", "1 102 708");
         onlyDue("", "", "");
+        Regionry x = Sight.text("000000000000000000000000");
+        int node = Sight.marked(x, 0, "2 1 2324 2224");
+        regionsDue(x, x.only(node, false), "the inner ones at the edges", "1 2324");
+        regionsDue(x, x.only(node, true), "the outer ones at the edges", "2 2224");
     }
 
     private static void nodesOfNodes() {
@@ -349,6 +359,8 @@ public final class RegionTest {
         toldDue("2 204 3 104", 4, 3, 3);
         toldDue("2 203", 3, 2, 1);
         toldDue("2 103", 3, 2, 2);
+        toldDue("1", 1, 1, 1);
+        toldDue("1 2 3 304", 4, 3, 3);
     }
 
     private static void wrongNodes() {
