@@ -1,11 +1,39 @@
+import java.util.function.Consumer;
+
 /** Counts the answers that are as due, prints those that are not, and ends the program by them. */
 final class Check {
+    static final Class<IndexOutOfBoundsException> NONE = IndexOutOfBoundsException.class;
+    static final Class<IllegalArgumentException> WRONG = IllegalArgumentException.class;
+    static final Class<IllegalStateException> FULL = IllegalStateException.class;
+
+    private static final int MOST_PRINTED = 5;
+
     private final String name;
+    private String sentence = "";
     private int right = 0;
     private int wrong = 0;
+    private int wrongOfSentence = 0;
 
     Check(String name) {
         this.name = name;
+    }
+
+    /** Runs each by itself: what one of them meets ahead of its end doesn't keep the others from theirs. */
+    void run(Runnable... tests) {
+        for (Runnable test : tests) {
+            sentence("");
+            try {
+                test.run();
+            } catch (RuntimeException | AssertionError thrown) {
+                fail("ended by " + thrown);
+            }
+        }
+    }
+
+    /** The document's words that the next answers are held against. */
+    void sentence(String words) {
+        sentence = words.isEmpty() ? "" : "[" + words + "] ";
+        wrongOfSentence = 0;
     }
 
     void same(String call, long due, long answered) {
@@ -28,20 +56,39 @@ final class Check {
         }
     }
 
-    // The very class: one that the machine throws is a class below the document's.
     void throwing(String call, Class<? extends RuntimeException> due, Runnable run) {
-        String answered = "nothing";
-        try {
+        String answered = Sight.answer(() -> {
             run.run();
-        } catch (RuntimeException thrown) {
-            answered = thrown.getClass().getName();
-        }
+            return 0;
+        });
         same(call + " throws", due.getName(), answered);
+    }
+
+    void none(Scene scene, String call, Consumer<Counted> run) {
+        refused(scene, call, NONE, run);
+    }
+
+    void wrong(Scene scene, String call, Consumer<Counted> run) {
+        refused(scene, call, WRONG, run);
+    }
+
+    void full(Scene scene, String call, Consumer<Counted> run) {
+        refused(scene, call, FULL, run);
+    }
+
+    // A call that throws changes nothing: all that the scene shows is there still.
+    private void refused(Scene scene, String call, Class<? extends RuntimeException> due, Consumer<Counted> run) {
+        Counted x = scene.make();
+        throwing(scene.name + ": " + call, due, () -> run.accept(x));
+        same("what is seen of " + scene.name + " after " + call, scene.due(), Sight.all(x) + Sight.after(x));
     }
 
     void fail(String what) {
         wrong++;
-        System.out.println(name + ": " + what);
+        wrongOfSentence++;
+        if (wrongOfSentence <= MOST_PRINTED) {
+            System.out.println(name + ": " + sentence + what);
+        }
     }
 
     void end() {

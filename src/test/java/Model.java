@@ -6,7 +6,7 @@ import java.util.TreeSet;
  * The document's words in their plainest form, with no thought of speed: sets of regions as sorted
  * sets of numbers (100 times the beginning, and the end), and each definition as it is written.
  */
-final class Model {
+final class Model implements Face {
     private static final int LETTER = 20, KIND = 21, NEAR = 22, INNER = 23, OUTER = 24;
 
     private final List<Integer> letters = new ArrayList<>();
@@ -39,7 +39,7 @@ final class Model {
         }
     }
 
-    int insert(int place, int letter) {
+    public int insert(int place, int letter) {
         none(place < 0 || place > letters.size());
         wrong(letter < 0 || letter > 5);
         full(letters.size() == 24);
@@ -57,7 +57,7 @@ final class Model {
         return letters.size();
     }
 
-    int remove(int place) {
+    public int remove(int place) {
         none(place < 0 || place >= letters.size());
         int letter = letters.remove(place);
         for (int kind = 0; kind < 4; kind++) {
@@ -75,23 +75,23 @@ final class Model {
         return letter;
     }
 
-    int length() {
+    public int length() {
         return letters.size();
     }
 
-    int letterAt(int place) {
+    public int letterAt(int place) {
         none(place < 0 || place >= letters.size());
         return letters.get(place);
     }
 
-    boolean mark(int kind, int from, int to) {
+    public boolean mark(int kind, int from, int to) {
         none(kind < 0 || kind > 3);
         wrong(from < 0 || from >= letters.size() || to <= from || to > letters.size());
         forget();
         return marks.get(kind).add(100 * from + to);
     }
 
-    int unmark(int kind, int place) {
+    public int unmark(int kind, int place) {
         none(kind < 0 || kind > 3);
         none(place < 0 || place >= marks.get(kind).size());
         marks.get(kind).remove(new ArrayList<>(marks.get(kind)).get(place));
@@ -99,54 +99,58 @@ final class Model {
         return marks.get(kind).size();
     }
 
-    int letter(int letter) {
+    public int letter(int letter) {
         wrong(letter < 0 || letter > 5);
         return make(LETTER, letter, 0, 0, 1);
     }
 
-    int marked(int kind) {
+    public int marked(int kind) {
         none(kind < 0 || kind > 3);
         return make(KIND, kind, 0, 0, 1);
     }
 
-    int pair(int operation, int one, int other) {
+    public int pair(int operation, int one, int other) {
         none(isNoNode(one) || isNoNode(other));
         wrong(operation < 0 || operation > 9);
         return make(operation, one, other, 0, 1 + Math.max(made.get(one)[4], made.get(other)[4]));
     }
 
-    int near(int one, int other, int gap) {
+    public int near(int one, int other, int gap) {
         none(isNoNode(one) || isNoNode(other));
         wrong(gap < 0 || gap > 24);
         return make(NEAR, one, other, gap, 1 + Math.max(made.get(one)[4], made.get(other)[4]));
     }
 
-    int only(int node, boolean isOuter) {
+    public int only(int node, boolean isOuter) {
         none(isNoNode(node));
         return make(isOuter ? OUTER : INNER, node, 0, 0, 1 + made.get(node)[4]);
     }
 
-    int nodes() {
+    public int nodes() {
         return made.size();
     }
 
-    int regions(int node) {
+    public int regions(int node) {
         none(isNoNode(node));
         return find(node).size();
     }
 
-    int regionAt(int node, int place) {
+    public int regionsOneByOne(int node) {
+        return regions(node);
+    }
+
+    public int regionAt(int node, int place) {
         none(isNoNode(node));
         none(place < 0 || place >= find(node).size());
         return new ArrayList<>(find(node)).get(place);
     }
 
-    boolean has(int node, int from, int to) {
+    public boolean has(int node, int from, int to) {
         none(isNoNode(node));
         return from >= 0 && from < to && to <= letters.size() && find(node).contains(100 * from + to);
     }
 
-    int covered(int node) {
+    public int covered(int node) {
         none(isNoNode(node));
         TreeSet<Integer> places = new TreeSet<>();
         for (int region : find(node)) {
@@ -157,7 +161,7 @@ final class Model {
         return places.size();
     }
 
-    int longest(int node) {
+    public int longest(int node) {
         none(isNoNode(node));
         int most = 0;
         for (int region : find(node)) {
@@ -166,7 +170,7 @@ final class Model {
         return most;
     }
 
-    int deepest(int node) {
+    public int deepest(int node) {
         none(isNoNode(node));
         int most = 0;
         for (int place = 0; place < letters.size(); place++) {

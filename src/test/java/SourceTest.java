@@ -1,15 +1,20 @@
 import java.nio.file.Files;
 import java.nio.file.Path;
+import java.util.List;
 import java.util.regex.Matcher;
 import java.util.regex.Pattern;
 
 /** Those rules of LANGUAGE.md that can be told from the words of the source. Takes its path. */
 public final class SourceTest {
     private static final String[] RULED_OUT = {
-        "import\\b", "\\bpackage\\b", "->", "::", "@", "\\bsynchronized\\b", "\\bassert\\b", "\\bfinally\\b", "\\btry\\b", "\\bcatch\\b",
-        "\\binstanceof\\b", "\\bdouble\\b", "\\bfloat\\b", "\\bprotected\\b", "\\bSystem\\b", "\\bRandom\\b", "\\bThread\\b",
-        "\\bvar\\b", "Exact\\b", "\\bequals\\b", "\\bhashCode\\b", "\\btoString\\b",
+        "\\bpackage\\b", "->", "::", "@", "\\bprotected\\b", "\\bsynchronized\\b", "\\bassert\\b", "\\bfinally\\b", "Exact\\b",
+        "\\bRandom\\b", "\\bThread\\b", "\\bSystem\\.(?!arraycopy\\b)", "\\bhashCode\\b", "\\bThrowable\\b", "\\bException\\b",
+        "\\b(NullPointer|ArrayIndexOutOfBounds|StringIndexOutOfBounds|ClassCast|NegativeArraySize|ArrayStore)Exception\\b",
+        "\\bimport (?!java\\.util\\.(ArrayList|List|Arrays|Iterator|NoSuchElementException);)",
     };
+    private static final List<String> EXCEPTIONS = List.of(
+        "IllegalStateException", "IllegalArgumentException", "IndexOutOfBoundsException", "ArithmeticException",
+        "UnsupportedOperationException", "NoSuchElementException", "RuntimeException");
     private static final int LONGEST_METHOD = 60;
     private static final int MOST_PARAMETERS = 7;
 
@@ -23,34 +28,23 @@ public final class SourceTest {
         }
         check.same("signs beyond 127", 0, source.chars().filter(sign -> sign > 127).count());
         exceptions(code);
-        library(code);
+        classes(code);
         lengths(code);
         check.end();
     }
 
     private static void exceptions(String code) {
-        Matcher matcher = Pattern.compile("throw new (\\w+)\\(\"\"\\);").matcher(code);
+        Matcher matcher = Pattern.compile("\\bthrow new (\\w+)\\((?:\"\")?\\);").matcher(code);
         int known = 0;
         while (matcher.find()) {
             known++;
-            String name = matcher.group(1);
-            boolean isDue = name.equals("IndexOutOfBoundsException") || name.equals("IllegalArgumentException") || name.equals("IllegalStateException");
-            check.same("throw new " + name + " is of the document", true, isDue);
+            check.same("throw new " + matcher.group(1) + " is of rule 6", true, EXCEPTIONS.contains(matcher.group(1)));
         }
         check.same("throws of another form", known, Pattern.compile("\\bthrow\\b").matcher(code).results().count());
     }
 
-    private static void library(String code) {
-        Matcher matcher = Pattern.compile("\\b(Integer|Long|Math)\\.(\\w+)").matcher(code);
-        while (matcher.find()) {
-            String name = matcher.group(2);
-            check.same(matcher.group() + " is one of the few", true, name.equals("bitCount") || name.equals("min") || name.equals("max"));
-        }
-        matcher = Pattern.compile("\\bclass (\\w+)").matcher(code);
-        int classes = 0;
-        while (matcher.find()) {
-            classes++;
-        }
+    private static void classes(String code) {
+        long classes = Pattern.compile("\\b(class|interface|enum|record) \\w+").matcher(code).results().count();
         check.same("at most twelve classes", true, classes >= 1 && classes <= 12);
     }
 

@@ -1,38 +1,25 @@
 /** Promises 1 to 7: a new object, the text, the marks. */
 public final class TextTest {
-    private static final Class<IndexOutOfBoundsException> NONE = IndexOutOfBoundsException.class;
-    private static final Class<IllegalArgumentException> WRONG = IllegalArgumentException.class;
-    private static final Class<IllegalStateException> FULL = IllegalStateException.class;
-    private static final String FULL_TEXT = "012345012345012345012345";
-
     private static final Check check = new Check("TextTest");
 
     public static void main(String[] args) {
-        promise1NewObject();
-        promise2Insert();
-        promise2WrongInserts();
-        promise2InsertMovesMarks();
-        promise3Remove();
-        promise3RemoveMovesMarks();
-        promise3RemoveMakesMarksOne();
-        promises4And5LengthAndLetterAt();
-        promise6Mark();
-        promise6WrongMarks();
-        promise7Unmark();
-        promise7WrongUnmarks();
+        check.run(
+            TextTest::promise1NewObject, TextTest::promise2Insert, TextTest::promise2InsertMovesMarks,
+            TextTest::promise3Remove, TextTest::promise3RemoveMovesMarks, TextTest::promise3RemoveMakesMarksOne,
+            TextTest::promises4And5LengthAndLetterAt, TextTest::promise6Mark, TextTest::promise7Unmark);
         check.end();
     }
 
     private static void promise1NewObject() {
-        Regionry x = new Regionry();
+        Counted x = new Counted();
         check.same("length() of a new object", 0, x.length());
         check.same("nodes() of a new object", 0, x.nodes());
         for (int kind = 0; kind < 4; kind++) {
             int number = kind;
-            check.throwing("unmark of a new object", NONE, () -> x.unmark(number, 0));
+            check.throwing("unmark of a new object", Check.NONE, () -> x.unmark(number, 0));
             check.same("regions of a kind of a new object", 0, x.regions(x.marked(kind)));
         }
-        Regionry used = Sight.text("012");
+        Counted used = Sight.text("012");
         used.mark(0, 0, 1);
         used.letter(0);
         check.same("length() of another object", 0, x.length());
@@ -41,7 +28,7 @@ public final class TextTest {
     }
 
     private static void promise2Insert() {
-        Regionry x = new Regionry();
+        Counted x = new Counted();
         check.same("insert(0, 3)", 1, x.insert(0, 3));
         check.same("insert(1, 4), behind the last one", 2, x.insert(1, 4));
         check.same("insert(0, 5)", 3, x.insert(0, 5));
@@ -49,38 +36,14 @@ public final class TextTest {
         check.same("insert(4, 1)", 5, x.insert(4, 1));
         check.same("insert(3, 2)", 6, x.insert(3, 2));
         check.same("the text", "503241", Sight.letters(x));
-        Regionry full = Sight.text(FULL_TEXT);
-        check.same("the full text", FULL_TEXT, Sight.letters(full));
+        Counted full = Sight.text(Sight.FULL_TEXT);
+        check.same("the full text", Sight.FULL_TEXT, Sight.letters(full));
         full.remove(23);
         check.same("insert(0, 2) into 23 letters", 24, full.insert(0, 2));
-        check.same("the text, full again", "2" + FULL_TEXT.substring(0, 23), Sight.letters(full));
+        check.same("the text, full again", "2" + Sight.FULL_TEXT.substring(0, 23), Sight.letters(full));
         full.remove(0);
         check.same("insert(23, 2) into 23 letters", 24, full.insert(23, 2));
-        check.same("the text, full once more", FULL_TEXT.substring(0, 23) + "2", Sight.letters(full));
-    }
-
-    private static void promise2WrongInserts() {
-        Regionry x = Sight.text("5034");
-        Regionry full = Sight.text(FULL_TEXT);
-        for (int place : new int[] {-1, 5, 24, 25}) {
-            check.throwing("insert(" + place + ", 0) into 4 letters", NONE, () -> x.insert(place, 0));
-        }
-        for (int letter : new int[] {-1, 6, 10}) {
-            check.throwing("insert(0, " + letter + ")", WRONG, () -> x.insert(0, letter));
-            check.throwing("insert(5, " + letter + ")", NONE, () -> x.insert(5, letter));
-            check.throwing("insert(0, " + letter + ") into 24 letters", WRONG, () -> full.insert(0, letter));
-            check.throwing("insert(25, " + letter + ") into 24 letters", NONE, () -> full.insert(25, letter));
-        }
-        for (int far : Sight.EXTREMES) {
-            check.throwing("insert(" + far + ", 0)", NONE, () -> x.insert(far, 0));
-            check.throwing("insert(0, " + far + ")", WRONG, () -> x.insert(0, far));
-            check.throwing("insert(" + far + ", 0) into 24 letters", NONE, () -> full.insert(far, 0));
-        }
-        check.throwing("insert(0, 0) into 24 letters", FULL, () -> full.insert(0, 0));
-        check.throwing("insert(24, 5) into 24 letters", FULL, () -> full.insert(24, 5));
-        check.throwing("insert(25, 0) into 24 letters", NONE, () -> full.insert(25, 0));
-        check.same("the text after wrong inserts", "5034", Sight.letters(x));
-        check.same("the full text after wrong inserts", FULL_TEXT, Sight.letters(full));
+        check.same("the text, full once more", Sight.FULL_TEXT.substring(0, 23) + "2", Sight.letters(full));
     }
 
     private static void promise2InsertMovesMarks() {
@@ -95,7 +58,7 @@ public final class TextTest {
         insertMoves("1 6 506", 1, "1 7 607");
         insertMoves("1 6 506", 5, "1 7 607");
         insertMoves("1 6 506", 6, "1 6 506");
-        Regionry x = Sight.text(FULL_TEXT.substring(1));
+        Counted x = Sight.text(Sight.FULL_TEXT.substring(1));
         int node = Sight.marked(x, 3, "23 1123 2223 1112");
         x.insert(11, 0);
         check.same("the regions in 24 letters", "24 1213 1224 2324", Sight.regions(x, node));
@@ -103,7 +66,7 @@ public final class TextTest {
 
     private static void insertMoves(String regions, int place, String due) {
         for (int kind = 0; kind < 4; kind++) {
-            Regionry x = Sight.text("000000");
+            Counted x = Sight.text("000000");
             int node = Sight.marked(x, kind, regions);
             x.insert(place, 1);
             check.same(regions + " after insert(" + place + ", 1)", due, Sight.regions(x, node));
@@ -113,28 +76,21 @@ public final class TextTest {
     }
 
     private static void promise3Remove() {
-        Regionry x = Sight.text("501234");
+        Counted x = Sight.text("501234");
         check.same("remove(2)", 1, x.remove(2));
         check.same("remove(0)", 5, x.remove(0));
         check.same("remove(3), the last one", 4, x.remove(3));
         check.same("the text", "023", Sight.letters(x));
-        for (int place : new int[] {-1, 3, 4, 24}) {
-            check.throwing("remove(" + place + ") of 3 letters", NONE, () -> x.remove(place));
-        }
-        for (int far : Sight.EXTREMES) {
-            check.throwing("remove(" + far + ")", NONE, () -> x.remove(far));
-        }
-        check.same("the text after wrong removes", "023", Sight.letters(x));
         x.remove(0);
         x.remove(0);
         check.same("remove(0), the only one", 3, x.remove(0));
         check.same("the empty text", "", Sight.letters(x));
-        check.throwing("remove(0) of an empty text", NONE, () -> x.remove(0));
-        Regionry full = Sight.text(FULL_TEXT);
-        check.throwing("remove(24) of 24 letters", NONE, () -> full.remove(24));
+        check.throwing("remove(0) of an empty text", Check.NONE, () -> x.remove(0));
+        Counted full = Sight.text(Sight.FULL_TEXT);
+        check.throwing("remove(24) of 24 letters", Check.NONE, () -> full.remove(24));
         check.same("remove(23) of 24 letters", 5, full.remove(23));
         check.same("remove(0) of 23 letters", 0, full.remove(0));
-        check.same("the text", FULL_TEXT.substring(1, 23), Sight.letters(full));
+        check.same("the text", Sight.FULL_TEXT.substring(1, 23), Sight.letters(full));
     }
 
     private static void promise3RemoveMovesMarks() {
@@ -148,7 +104,7 @@ public final class TextTest {
         removeMoves("1 6 506", 3, "1 5 405");
         removeMoves("1 6 506", 5, "1 5");
         removeMoves("304", 3, "");
-        Regionry x = Sight.text(FULL_TEXT);
+        Counted x = Sight.text(Sight.FULL_TEXT);
         int node = Sight.marked(x, 1, "24 1224 2324 1213");
         x.remove(12);
         check.same("the regions in 23 letters", "23 1223 2223", Sight.regions(x, node));
@@ -166,7 +122,7 @@ public final class TextTest {
         removeMoves("204 205 304 305", 4, "204 304");
         removeMoves("6 5 106 105", 0, "4 5");
         removeMoves("6 5 106 105", 5, "5 105");
-        Regionry x = Sight.text("0000");
+        Counted x = Sight.text("0000");
         int node = Sight.marked(x, 0, "2 3");
         int otherNode = Sight.marked(x, 1, "3");
         x.remove(2);
@@ -178,7 +134,7 @@ public final class TextTest {
 
     private static void removeMoves(String regions, int place, String due) {
         for (int kind = 0; kind < 4; kind++) {
-            Regionry x = Sight.text("000000");
+            Counted x = Sight.text("000000");
             int node = Sight.marked(x, kind, regions);
             x.remove(place);
             check.same(regions + " after remove(" + place + ")", due, Sight.regions(x, node));
@@ -188,26 +144,23 @@ public final class TextTest {
     }
 
     private static void promises4And5LengthAndLetterAt() {
-        Regionry x = new Regionry();
-        check.throwing("letterAt(0) of an empty text", NONE, () -> x.letterAt(0));
+        Counted x = new Counted();
+        check.throwing("letterAt(0) of an empty text", Check.NONE, () -> x.letterAt(0));
         for (int place = 0; place < 24; place++) {
             x.insert(place, place % 6);
             check.same("length()", place + 1, x.length());
             check.same("letterAt(" + place + ")", place % 6, x.letterAt(place));
             int behind = place + 1;
-            check.throwing("letterAt(" + behind + ")", NONE, () -> x.letterAt(behind));
-        }
-        for (int far : Sight.EXTREMES) {
-            check.throwing("letterAt(" + far + ")", NONE, () -> x.letterAt(far));
+            check.throwing("letterAt(" + behind + ")", Check.NONE, () -> x.letterAt(behind));
         }
         x.remove(5);
         check.same("length() of 23", 23, x.length());
         check.same("letterAt(5)", 0, x.letterAt(5));
-        check.throwing("letterAt(23) of 23 letters", NONE, () -> x.letterAt(23));
+        check.throwing("letterAt(23) of 23 letters", Check.NONE, () -> x.letterAt(23));
     }
 
     private static void promise6Mark() {
-        Regionry x = Sight.text("01234");
+        Counted x = Sight.text("01234");
         check.same("mark(0, 0, 5), all of the text", true, x.mark(0, 0, 5));
         check.same("mark(0, 0, 5) again", false, x.mark(0, 0, 5));
         check.same("mark(1, 0, 5), another kind", true, x.mark(1, 0, 5));
@@ -221,7 +174,7 @@ public final class TextTest {
         check.same("the regions of 3", "204", Sight.regions(x, x.marked(3)));
         x.unmark(3, 0);
         check.same("mark(3, 2, 4) when it is not marked any more", true, x.mark(3, 2, 4));
-        Regionry full = Sight.text(FULL_TEXT);
+        Counted full = Sight.text(Sight.FULL_TEXT);
         int node = full.marked(2);
         for (int from = 0; from < 24; from++) {
             for (int to = from + 1; to <= 24; to++) {
@@ -232,37 +185,8 @@ public final class TextTest {
         check.same("the last one", 2324, full.regionAt(node, 299));
     }
 
-    private static void promise6WrongMarks() {
-        Regionry x = Sight.text("01234");
-        int node = Sight.marked(x, 0, "103");
-        int[][] wrong = {{0, 0}, {2, 2}, {3, 2}, {0, 6}, {4, 6}, {5, 5}, {5, 6}, {-1, 0}, {-1, 1}, {-1, 5}, {4, 3}, {24, 25}, {6, 7}};
-        for (int[] region : wrong) {
-            markWrong(x, region[0], region[1]);
-        }
-        for (int far : Sight.EXTREMES) {
-            markWrong(x, far, 3);
-            markWrong(x, 1, far);
-            markWrong(x, far, far + 1);
-            check.throwing("mark(" + far + ", 0, 1)", NONE, () -> x.mark(far, 0, 1));
-        }
-        check.throwing("mark(4, 0, 1)", NONE, () -> x.mark(4, 0, 1));
-        check.same("the regions after wrong marks", "103", Sight.regions(x, node));
-        Regionry empty = new Regionry();
-        markWrong(empty, 0, 1);
-        markWrong(empty, 0, 0);
-    }
-
-    // Of a wrong kind and a wrong region the kind comes first.
-    private static void markWrong(Regionry x, int from, int to) {
-        String call = from + ", " + to + ")";
-        check.throwing("mark(0, " + call, WRONG, () -> x.mark(0, from, to));
-        check.throwing("mark(3, " + call, WRONG, () -> x.mark(3, from, to));
-        check.throwing("mark(4, " + call, NONE, () -> x.mark(4, from, to));
-        check.throwing("mark(-1, " + call, NONE, () -> x.mark(-1, from, to));
-    }
-
     private static void promise7Unmark() {
-        Regionry x = Sight.text("012345");
+        Counted x = Sight.text("012345");
         int node = Sight.marked(x, 2, "406 3 204 1 203 206");
         check.same("the regions", "1 3 203 204 206 406", Sight.regions(x, node));
         check.same("unmark(2, 3)", 5, x.unmark(2, 3));
@@ -275,27 +199,11 @@ public final class TextTest {
         check.same("the regions", "206", Sight.regions(x, node));
         check.same("unmark(2, 0), the only one", 0, x.unmark(2, 0));
         check.same("no regions", "", Sight.regions(x, node));
-        check.throwing("unmark(2, 0) of none", NONE, () -> x.unmark(2, 0));
+        check.throwing("unmark(2, 0) of none", Check.NONE, () -> x.unmark(2, 0));
         Sight.marks(x, 0, "1");
         Sight.marks(x, 1, "1 2");
         check.same("unmark(1, 0) leaves other kinds", 1, x.unmark(1, 0));
         check.same("unmark(0, 0)", 0, x.unmark(0, 0));
     }
 
-    private static void promise7WrongUnmarks() {
-        Regionry x = Sight.text("012345");
-        int node = Sight.marked(x, 3, "1 102");
-        for (int place : new int[] {-1, 2, 3, 100}) {
-            check.throwing("unmark(3, " + place + ") of two", NONE, () -> x.unmark(3, place));
-        }
-        for (int kind : new int[] {-1, 4}) {
-            check.throwing("unmark(" + kind + ", 0)", NONE, () -> x.unmark(kind, 0));
-        }
-        for (int far : Sight.EXTREMES) {
-            check.throwing("unmark(3, " + far + ")", NONE, () -> x.unmark(3, far));
-            check.throwing("unmark(" + far + ", 0)", NONE, () -> x.unmark(far, 0));
-        }
-        check.throwing("unmark(0, 0) of another kind", NONE, () -> x.unmark(0, 0));
-        check.same("the regions after wrong unmarks", "1 102", Sight.regions(x, node));
-    }
 }
