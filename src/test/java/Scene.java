@@ -102,7 +102,7 @@ final class Scene {
         });
     }
 
-    /** Nodes of the depths 1 to 6, numbered 0 to 5, and letters from there on, up to that many nodes. */
+    /** Nodes of the depths 1 to 6, numbered 0 to 5, then the kinds, then letters, up to that many nodes. */
     static Scene deep(int count) {
         return new Scene("a depth of 6 and " + count + " nodes", x -> {
             Sight.write(x, MARKED_TEXT);
@@ -112,7 +112,11 @@ final class Scene {
                 x.only(depth - 2, true);
             }
             for (int node = 6; node < count; node++) {
-                x.letter(node % 6);
+                if (node < 10) {
+                    x.marked(node - 6);
+                } else {
+                    x.letter(node % 6);
+                }
             }
         });
     }

@@ -69,13 +69,21 @@ final class Sight {
     }
 
     /**
-     * What the calls answer that change the object: how deep a node is, and whether one more node,
-     * letter or mark finds room, no question tells.
+     * What the calls answer that change the object: the marks of a kind without a node, how deep a
+     * node is, and whether one more node, letter or mark finds room, no question tells.
      */
     static String after(Face x) {
         StringBuilder told = new StringBuilder("then");
         int nodes = x.nodes();
-        told.append(" letter ").append(answer(() -> x.letter(5))).append(", only");
+        for (int kind = 0; kind < 4; kind++) {
+            int number = kind;
+            String node = answer(() -> x.marked(number));
+            told.append(" marked ").append(node);
+            if (node.matches("[0-9]+")) {
+                told.append(": ").append(regions(x, Integer.parseInt(node)));
+            }
+        }
+        told.append(", letter ").append(answer(() -> x.letter(5))).append(", only");
         for (int node = 0; node < nodes; node++) {
             int number = node;
             told.append(' ').append(answer(() -> x.only(number, false)));
