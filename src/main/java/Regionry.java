@@ -254,7 +254,7 @@ public final class Regionry {
         int take(int place) {
             int letter = letterOf(place);
             size--;
-            for (int at = place; at < size; at++) {
+            for (int at = place; at < size && at + 1 < letters.length; at++) {
                 letters[at] = letters[at + 1];
             }
             for (int kind = 0; kind < marks.length; kind++) {
@@ -275,7 +275,7 @@ public final class Regionry {
         }
 
         boolean isPlace(int place) {
-            return place >= 0 && place < size;
+            return place >= 0 && place < size && place < letters.length;
         }
 
         boolean isRegion(int from, int to) {
@@ -411,7 +411,7 @@ public final class Regionry {
 
         void openAt(int place) {
             for (int from = rows.length - 1; from > place; from--) {
-                rows[from] = endsOpenedAt(place, row(from - 1));
+                setRow(from, endsOpenedAt(place, row(from - 1)));
             }
             setRow(place, 0);
             for (int from = 0; from < rows.length && from < place; from++) {

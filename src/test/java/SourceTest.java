@@ -3,18 +3,46 @@ import java.nio.file.Path;
 import java.util.List;
 import java.util.regex.Matcher;
 import java.util.regex.Pattern;
+import java.util.stream.Collectors;
 
-/** Those rules of LANGUAGE.md that can be told from the words of the source. Takes its path. */
+/** The face as the document writes it, and those rules of LANGUAGE.md that words of the source tell. Takes its path. */
 public final class SourceTest {
     private static final String[] RULED_OUT = {
         "\\bpackage\\b", "->", "::", "@", "\\bprotected\\b", "\\bsynchronized\\b", "\\bassert\\b", "\\bfinally\\b", "Exact\\b",
-        "\\bRandom\\b", "\\bThread\\b", "\\bSystem\\.(?!arraycopy\\b)", "\\bhashCode\\b", "\\bThrowable\\b", "\\bException\\b",
+        "\\bRandom\\b", "\\bThread\\b", "\\bSystem\\.(?!arraycopy\\b)", "\\bstatic\\s*\\{", "\\bhashCode\\b", "\\bThrowable\\b", "\\bException\\b",
         "\\b(NullPointer|ArrayIndexOutOfBounds|StringIndexOutOfBounds|ClassCast|NegativeArraySize|ArrayStore)Exception\\b",
         "\\bimport (?!java\\.util\\.(ArrayList|List|Arrays|Iterator|NoSuchElementException);)",
     };
     private static final List<String> EXCEPTIONS = List.of(
         "IllegalStateException", "IllegalArgumentException", "IndexOutOfBoundsException", "ArithmeticException",
         "UnsupportedOperationException", "NoSuchElementException", "RuntimeException");
+    // 'The public face', from its first line to its last, and what 'Terms' says that it says ahead of the calls.
+    private static final List<String> FACE = List.of(
+        "public final class Regionry",
+        "public static final int OR = 0, AND = 1, BUT = 2, HOLDING = 3, BARE = 4, IN = 5, OUT = 6, AHEAD = 7, BEHIND = 8, SPAN = 9;",
+        "public Regionry()",
+        "// ---- the text",
+        "public int insert(int place, int letter) throws IndexOutOfBoundsException, IllegalArgumentException, IllegalStateException",
+        "public int remove(int place) throws IndexOutOfBoundsException",
+        "public int length()",
+        "public int letterAt(int place) throws IndexOutOfBoundsException",
+        "public boolean mark(int kind, int from, int to) throws IndexOutOfBoundsException, IllegalArgumentException",
+        "public int unmark(int kind, int place) throws IndexOutOfBoundsException",
+        "// ---- expressions",
+        "public int letter(int letter) throws IllegalArgumentException, IllegalStateException",
+        "public int marked(int kind) throws IndexOutOfBoundsException, IllegalStateException",
+        "public int pair(int operation, int one, int other) throws IndexOutOfBoundsException, IllegalArgumentException, IllegalStateException",
+        "public int near(int one, int other, int gap) throws IndexOutOfBoundsException, IllegalArgumentException, IllegalStateException",
+        "public int only(int node, boolean isOuter) throws IndexOutOfBoundsException, IllegalStateException",
+        "public int nodes()",
+        "// ---- regions",
+        "public int regions(int node) throws IndexOutOfBoundsException",
+        "public int regionsOneByOne(int node) throws IndexOutOfBoundsException",
+        "public int regionAt(int node, int place) throws IndexOutOfBoundsException",
+        "public boolean has(int node, int from, int to) throws IndexOutOfBoundsException",
+        "public int covered(int node) throws IndexOutOfBoundsException",
+        "public int longest(int node) throws IndexOutOfBoundsException",
+        "public int deepest(int node) throws IndexOutOfBoundsException");
     private static final int LONGEST_METHOD = 60;
     private static final int MOST_PARAMETERS = 7;
 
@@ -27,10 +55,18 @@ public final class SourceTest {
             check.same("how often the source has " + ruledOut, 0, Pattern.compile(ruledOut).matcher(code).results().count());
         }
         check.same("signs beyond 127", 0, source.chars().filter(sign -> sign > 127).count());
+        face(source);
         exceptions(code);
         classes(code);
         lengths(code);
         check.end();
+    }
+
+    private static void face(String source) {
+        List<String> found = source.lines().map(String::trim)
+            .filter(line -> line.startsWith("public ") || FACE.contains(line))
+            .map(line -> line.replaceAll(" \\{$", "")).collect(Collectors.toList());
+        check.same("the face, in its order", String.join("\n", FACE), String.join("\n", found));
     }
 
     private static void exceptions(String code) {
